@@ -124,7 +124,7 @@ public final class LanguageTest {
         }
     }
 
-    /** Rows test each index themselves, so nothing else may use an array; one division is there, and no cast to a class. */
+    /** A row tests each index itself, so nothing else may use an array; one division is there, no cast to a class. */
     private static void machineNeverThrows(String code) {
         int start = code.indexOf("private static final class Row {");
         String row = code.substring(start, code.indexOf("\n    }\n", start));

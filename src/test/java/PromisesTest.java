@@ -32,6 +32,7 @@ public final class PromisesTest {
         approveDelegate();
         approveHalf();
         approveAgain();
+        personZero();
         release();
         coveredByTwo();
         pass();
@@ -39,6 +40,7 @@ public final class PromisesTest {
         coveredAnew();
         strain();
         entries();
+        fullBook();
         throwingChangesNothing();
         t.end();
     }
@@ -847,6 +849,47 @@ public final class PromisesTest {
         d.request(0, 5, 1);
         t.due(NONE, () -> d.resolve(1));
         t.due(told.length + 1, () -> d.entries());
+    }
+
+    /** All 512 calls of an object may be told in the book, and all of them count when it is judged anew. */
+    private static void fullBook() {
+        Approvalyard d = resolvedAt(150);
+        for (int call = 4; call <= 510; call++) {
+            d.limit(7, call);
+        }
+        d.limit(0, 150);
+        d.request(7, 0, 1);
+        t.due(512, () -> d.entries());
+
+        Approvalyard last = resolvedAt(100);
+        for (int call = 4; call <= 511; call++) {
+            last.pass(1);
+        }
+        t.due(false, () -> last.isCoveredAnew(0));
+        last.approve(0, 1);
+        t.due(512, () -> last.entries());
+        state(last, 0, RESOLVED, 100, 1, 1);
+    }
+
+    /** Person 0 is one like the others: in approvals, as a delegate and for the strain. */
+    private static void personZero() {
+        Approvalyard d = new Approvalyard();
+        d.version(0, 600);
+        d.request(7, 0, 1);
+        d.resolve(0);
+        d.limit(0, 700);
+        t.due(600.0f / 700.0f, () -> d.strain(0));
+        t.due(0, () -> d.approve(0, 0));
+        d.limit(1, 600);
+        t.due(1, () -> d.approve(0, 1));
+        state(d, 0, RESOLVED, 600, 2, 1);
+        t.due(600, () -> d.resolve(0));
+        state(d, 0, RESOLVED, 600, 0, 0);
+        d.limit(0, 300);
+        d.leave(1, 0, 2);
+        t.due(1, () -> d.approve(0, 0));
+        t.due(1, () -> d.replace(0, 1));
+        state(d, 0, OPEN, NONE, 0, 0);
     }
 
     private static void throwingChangesNothing() {

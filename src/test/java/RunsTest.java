@@ -22,12 +22,12 @@ public final class RunsTest {
     private static final int[] LIMITS = {0, 1, 49, 50, 75, 100, 101, 150, 200, 250, 251, 500, 501, 1000, 3000, 10000};
 
     private static final Map<String, Integer> seen = new TreeMap<>();
-    private static long seed;
+    private static Calls calls;
 
     public static void main(String[] args) {
         Checks t = new Checks("RunsTest");
         for (int run = 0; run < RUNS; run++) {
-            seed = run * 7919L + 17;
+            calls = new Calls(run * 7919L + 17);
             compare(t, run);
         }
         allSeen(t);
@@ -37,18 +37,18 @@ public final class RunsTest {
     private static void compare(Checks t, int run) {
         Approvalyard desk = new Approvalyard();
         Model model = new Model();
-        List<String> calls = new ArrayList<>();
+        List<String> made = new ArrayList<>();
         for (int call = 0; call < CALLS; call++) {
             int kind = kind(WEIGHTS[run % WEIGHTS.length]);
             int[] a = arguments(kind, model);
             Object want = Checks.answerOf(() -> ofModel(model, kind, a));
-            Object got = Checks.answerOf(() -> ofDesk(desk, kind, a));
-            calls.add(NAMES[kind] + Arrays.toString(a) + " = " + got);
+            Object got = Checks.answerOf(() -> Calls.answer(desk, NAMES[kind], a));
+            made.add(NAMES[kind] + Arrays.toString(a) + " = " + got);
             seen.merge(NAMES[kind] + " " + summary(want), 1, Integer::sum);
             t.judge(want, got);
             if (!want.equals(got)) {
-                System.out.println("run " + run + ", the last of " + calls.size() + ": " + calls.get(call));
-                return;
+                System.out.println("run " + run + ", the last call is wrong: " + made);
+                t.end();
             }
         }
     }
@@ -109,37 +109,17 @@ public final class RunsTest {
         };
     }
 
-    private static Object ofDesk(Approvalyard d, int kind, int[] a) {
-        switch (NAMES[kind]) {
-            case "version": return d.version(a[0], a[1]);
-            case "need": return d.need(a[0], a[1], a[2], a[3], a[4]);
-            case "replace": return d.replace(a[0], a[1]);
-            case "request": return d.request(a[0], a[1], a[2]);
-            case "resolve": return d.resolve(a[0]);
-            case "limit": return d.limit(a[0], a[1]);
-            case "leave": return d.leave(a[0], a[1], a[2]);
-            case "approve": return d.approve(a[0], a[1]);
-            case "release": d.release(a[0]); return 0;
-            case "pass": return d.pass(a[0]);
-            case "chosen": return d.chosen(a[0], a[1]);
-            case "ofRequest": return d.ofRequest(a[0], a[1]);
-            case "isCoveredAnew": return d.isCoveredAnew(a[0]);
-            case "strain": return d.strain(a[0]);
-            default: return d.entries();
-        }
-    }
-
     private static int[] arguments(int kind, Model model) {
         return switch (NAMES[kind]) {
             case "version" -> new int[] {eighth(), pick(COSTS, 1001)};
             case "need" -> needArguments();
             case "replace" -> new int[] {eighth(), third()};
-            case "request" -> new int[] {eighth(), eighth(), next(4) == 0 ? third() : 1};
+            case "request" -> new int[] {eighth(), eighth(), calls.next(4) == 0 ? third() : 1};
             case "limit" -> new int[] {eighth(), pick(LIMITS, 10001)};
-            case "leave" -> new int[] {eighth(), eighth(), next(40) == 0 ? 60 + next(2) : next(9)};
+            case "leave" -> new int[] {eighth(), eighth(), calls.next(40) == 0 ? 60 + calls.next(2) : calls.next(9)};
             case "approve", "chosen" -> new int[] {number(model), eighth()};
-            case "pass" -> new int[] {next(40) == 0 ? 60 + next(2) : next(4)};
-            case "ofRequest" -> new int[] {number(model), next(60) == 0 ? next(2) * 5 - 1 : next(4)};
+            case "pass" -> new int[] {calls.next(40) == 0 ? 60 + calls.next(2) : calls.next(4)};
+            case "ofRequest" -> new int[] {number(model), calls.next(60) == 0 ? calls.next(2) * 5 - 1 : calls.next(4)};
             case "entries" -> new int[0];
             default -> new int[] {number(model)};
         };
@@ -147,26 +127,26 @@ public final class RunsTest {
 
     private static int[] needArguments() {
         int least = third();
-        int greatest = next(30) == 0 ? least - 1 : Math.min(3, least + next(3));
+        int greatest = calls.next(30) == 0 ? least - 1 : Math.min(3, least + calls.next(3));
         return new int[] {eighth(), third(), eighth(), least, greatest};
     }
 
     /** A part or a person, few of them out of range. */
     private static int eighth() {
-        return next(60) == 0 ? next(2) * 9 - 1 : next(8);
+        return calls.next(60) == 0 ? calls.next(2) * 9 - 1 : calls.next(8);
     }
 
     private static int third() {
-        return next(60) == 0 ? next(2) * 4 : 1 + next(3);
+        return calls.next(60) == 0 ? calls.next(2) * 4 : 1 + calls.next(3);
     }
 
     private static int number(Model model) {
         int count = model.count();
-        return next(60) == 0 || count == 0 ? next(2) * (count + 1) - 1 : next(Math.min(count, 8));
+        return calls.next(60) == 0 || count == 0 ? calls.next(2) * (count + 1) - 1 : calls.next(Math.min(count, 8));
     }
 
     private static int pick(int[] numbers, int wrong) {
-        return next(60) == 0 ? next(2) * (wrong + 1) - 1 : numbers[next(numbers.length)];
+        return calls.next(60) == 0 ? calls.next(2) * (wrong + 1) - 1 : numbers[calls.next(numbers.length)];
     }
 
     private static int kind(int[] weights) {
@@ -174,17 +154,12 @@ public final class RunsTest {
         for (int weight : weights) {
             sum += weight;
         }
-        int left = next(sum);
+        int left = calls.next(sum);
         int kind = 0;
         while (left >= weights[kind]) {
             left -= weights[kind];
             kind++;
         }
         return kind;
-    }
-
-    private static int next(int bound) {
-        seed = seed * 6364136223846793005L + 1442695040888963407L;
-        return (int) ((seed >>> 33) % bound);
     }
 }

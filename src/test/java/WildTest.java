@@ -25,16 +25,16 @@ public final class WildTest {
         Map.entry("entries", List.of()));
 
     private static final Checks t = new Checks("WildTest");
-    private static long seed = 5;
+    private static final Calls calls = new Calls(5);
 
     public static void main(String[] args) {
         String[] names = MAY_THROW.keySet().stream().sorted().toArray(String[]::new);
         for (int run = 0; run < 60; run++) {
             Approvalyard desk = new Approvalyard();
             for (int call = 0; call < 3000; call++) {
-                String name = names[next(names.length)];
+                String name = names[calls.next(names.length)];
                 int[] a = {number(), number(), number(), number(), number()};
-                Object got = Checks.answerOf(() -> answer(desk, name, a));
+                Object got = Checks.answerOf(() -> Calls.answer(desk, name, a));
                 boolean isFine = !(got instanceof Class<?>) || MAY_THROW.get(name).contains(got);
                 t.judge("an answer of the document", isFine ? "an answer of the document" : name + " " + got);
             }
@@ -60,46 +60,15 @@ public final class WildTest {
             desk.need(7, version, 0, 1, 1);
         }
         desk.request(0, 0, 1);
-        for (int call = 49; call < 512; call++) {
-            t.due(call % 2 == 0 ? (Object) false : 8000, () -> callOf(desk));
+        for (int entries = 49; entries <= 280; entries++) {
+            t.due(8000, () -> desk.resolve(0));
+            t.due(false, () -> desk.isCoveredAnew(0));
         }
         t.due(1, () -> desk.chosen(0, 0));
         t.due(3, () -> desk.chosen(0, 7));
     }
 
-    private static int turn = 0;
-
-    private static Object callOf(Approvalyard desk) {
-        turn++;
-        return turn % 2 == 0 ? (Object) desk.isCoveredAnew(0) : (Object) desk.resolve(0);
-    }
-
-    private static Object answer(Approvalyard d, String name, int[] a) {
-        switch (name) {
-            case "version": return d.version(a[0], a[1]);
-            case "need": return d.need(a[0], a[1], a[2], a[3], a[4]);
-            case "replace": return d.replace(a[0], a[1]);
-            case "request": return d.request(a[0], a[1], a[2]);
-            case "resolve": return d.resolve(a[0]);
-            case "limit": return d.limit(a[0], a[1]);
-            case "leave": return d.leave(a[0], a[1], a[2]);
-            case "approve": return d.approve(a[0], a[1]);
-            case "release": d.release(a[0]); return 0;
-            case "pass": return d.pass(a[0]);
-            case "chosen": return d.chosen(a[0], a[1]);
-            case "ofRequest": return d.ofRequest(a[0], a[1]);
-            case "isCoveredAnew": return d.isCoveredAnew(a[0]);
-            case "strain": return d.strain(a[0]);
-            default: return d.entries();
-        }
-    }
-
     private static int number() {
-        return next(5) == 0 ? NUMBERS[next(NUMBERS.length)] : next(8);
-    }
-
-    private static int next(int bound) {
-        seed = seed * 6364136223846793005L + 1442695040888963407L;
-        return (int) ((seed >>> 33) % bound);
+        return calls.next(5) == 0 ? NUMBERS[calls.next(NUMBERS.length)] : calls.next(8);
     }
 }
