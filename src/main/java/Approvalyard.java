@@ -163,8 +163,9 @@ public final class Approvalyard {
 
     public boolean isCoveredAnew(int request) throws IndexOutOfBoundsException {
         checkRequest(request);
+        int count = book.count();
         deskAnew.clear();
-        for (int entry = 0; entry < book.count(); entry++) {
+        for (int entry = 0; entry < count; entry++) {
             deskAnew.apply(book, entry);
         }
         return deskAnew.isCovered(request);
@@ -704,7 +705,8 @@ public final class Approvalyard {
                 wanted.put(next + each, wanted.at(depth * PARTS + each));
             }
             wanted.put(next + part, Parts.versionSet(version, version));
-            for (int index = 0; index < parts.needsOf(part, version); index++) {
+            int count = parts.needsOf(part, version);
+            for (int index = 0; index < count; index++) {
                 int other = parts.neededPart(part, version, index);
                 int left = wanted.at(next + other) & parts.neededVersions(part, version, index);
                 if (left == 0) {

@@ -60,7 +60,7 @@ public final class WildTest {
             desk.need(7, version, 0, 1, 1);
         }
         desk.request(0, 0, 1);
-        for (int entries = 49; entries <= 280; entries++) {
+        for (int entries = 49; entries <= 278; entries++) {
             t.due(8000, () -> desk.resolve(0));
             t.due(false, () -> desk.isCoveredAnew(0));
         }
