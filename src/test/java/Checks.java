@@ -4,6 +4,10 @@ final class Checks {
         Object answer();
     }
 
+    interface CallOf {
+        Object answer(int number);
+    }
+
     interface Act {
         void run();
     }
@@ -38,6 +42,49 @@ final class Checks {
         } catch (RuntimeException e) {
             return e.getClass();
         }
+    }
+
+    /** The argument may be from least to greatest; the numbers next to these and the farthest ones are refused. */
+    void range(int least, int greatest, Class<?> refusal, CallOf call) {
+        for (int number : new int[] {Integer.MIN_VALUE, least - 1, greatest + 1, Integer.MAX_VALUE}) {
+            judge(refusal, answerOf(() -> call.answer(number)));
+        }
+        for (int number = least; number <= greatest; number += greatest - least > 100 ? greatest - least : 1) {
+            int each = number;
+            Object got = answerOf(() -> call.answer(each));
+            judge("taken", got instanceof Class<?> ? "refused: " + each + " by " + got : "taken");
+        }
+    }
+
+    /** A desk on which part 0 has one version of that cost, with the request 0 of person 0 for it, resolved. */
+    Approvalyard resolvedAt(int cost) {
+        Approvalyard d = new Approvalyard();
+        d.version(0, cost);
+        d.request(0, 0, 1);
+        due(cost, () -> d.resolve(0));
+        return d;
+    }
+
+    /** All that can be asked of a request, but for its choice and its strain. */
+    void state(Approvalyard d, int request, int state, int cost, int approvals, int covered) {
+        due(state, () -> d.ofRequest(request, 0));
+        due(cost, () -> d.ofRequest(request, 1));
+        due(approvals, () -> d.ofRequest(request, 2));
+        due(covered, () -> d.ofRequest(request, 3));
+        due(covered == 1, () -> d.isCoveredAnew(request));
+    }
+
+    /** The versions chosen for a request, from part 0 on; of the parts that are not named there is none. */
+    void choice(Approvalyard d, int request, int... versions) {
+        for (int part = 0; part < 8; part++) {
+            int each = part;
+            due(part < versions.length ? versions[part] : Approvalyard.NONE, () -> d.chosen(request, each));
+        }
+    }
+
+    /** How many answers were not as due. */
+    int wrong() {
+        return wrong;
     }
 
     void judge(Object want, Object got) {

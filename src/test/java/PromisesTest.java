@@ -52,30 +52,6 @@ public final class PromisesTest {
         t.due(2, () -> Approvalyard.RELEASED);
     }
 
-    /** A desk on which part 0 has one version of that cost, with the request 0 of person 0 for it, resolved. */
-    private static Approvalyard resolvedAt(int cost) {
-        Approvalyard d = new Approvalyard();
-        d.version(0, cost);
-        d.request(0, 0, 1);
-        t.due(cost, () -> d.resolve(0));
-        return d;
-    }
-
-    private static void state(Approvalyard d, int request, int state, int cost, int approvals, int covered) {
-        t.due(state, () -> d.ofRequest(request, 0));
-        t.due(cost, () -> d.ofRequest(request, 1));
-        t.due(approvals, () -> d.ofRequest(request, 2));
-        t.due(covered, () -> d.ofRequest(request, 3));
-        t.due(covered == 1, () -> d.isCoveredAnew(request));
-    }
-
-    private static void choice(Approvalyard d, int request, int... versions) {
-        for (int part = 0; part < 8; part++) {
-            int each = part;
-            t.due(part < versions.length ? versions[part] : NONE, () -> d.chosen(request, each));
-        }
-    }
-
     private static void newObject() {
         Approvalyard d = new Approvalyard();
         t.due(0, () -> d.entries());
@@ -198,18 +174,18 @@ public final class PromisesTest {
         d.approve(1, 5);
         d.approve(2, 7);
         t.due(0, () -> d.replace(0, 1));
-        state(d, 0, RESOLVED, 50, 2, 1);
+        t.state(d, 0, RESOLVED, 50, 2, 1);
         t.due(3, () -> d.replace(0, 2));
-        state(d, 0, OPEN, NONE, 0, 0);
-        state(d, 1, RESOLVED, 30, 1, 1);
-        state(d, 2, OPEN, NONE, 0, 0);
-        choice(d, 0);
-        choice(d, 1, NONE, 1);
-        choice(d, 2);
+        t.state(d, 0, OPEN, NONE, 0, 0);
+        t.state(d, 1, RESOLVED, 30, 1, 1);
+        t.state(d, 2, OPEN, NONE, 0, 0);
+        t.choice(d, 0);
+        t.choice(d, 1, NONE, 1);
+        t.choice(d, 2);
         t.due(30, () -> d.resolve(3));
         t.due(1, () -> d.replace(1, 1));
-        state(d, 1, OPEN, NONE, 0, 0);
-        state(d, 3, OPEN, NONE, 0, 0);
+        t.state(d, 1, OPEN, NONE, 0, 0);
+        t.state(d, 3, OPEN, NONE, 0, 0);
     }
 
     private static void replaceReleased() {
@@ -227,11 +203,11 @@ public final class PromisesTest {
         d.release(0);
         d.pass(5);
         t.due(2, () -> d.replace(1, 1));
-        state(d, 0, RELEASED, 40, 0, 0);
-        choice(d, 0, 1, 1);
+        t.state(d, 0, RELEASED, 40, 0, 0);
+        t.choice(d, 0, 1, 1);
         t.due(0, () -> d.replace(0, 1));
-        state(d, 0, RELEASED, 40, 0, 0);
-        choice(d, 0, 1, 1);
+        t.state(d, 0, RELEASED, 40, 0, 0);
+        t.choice(d, 0, 1, 1);
         t.fails(Checks.STATE, () -> d.approve(0, 3));
         t.fails(Checks.STATE, () -> d.resolve(0));
         t.fails(Checks.STATE, () -> d.release(0));
@@ -250,7 +226,7 @@ public final class PromisesTest {
         for (int number = 0; number < 30; number++) {
             int each = number;
             t.due(each, () -> d.request(each % 8, 7 - each % 8, 1 + each % 3));
-            state(d, each, OPEN, NONE, 0, 0);
+            t.state(d, each, OPEN, NONE, 0, 0);
         }
         t.fails(Checks.STATE, () -> d.request(0, 0, 1));
         t.fails(Checks.ARGUMENT, () -> d.request(0, 0, 0));
@@ -267,13 +243,13 @@ public final class PromisesTest {
         t.fails(Checks.INDEX, () -> d.resolve(1));
         t.fails(Checks.INDEX, () -> d.resolve(MOST));
         t.due(NONE, () -> d.resolve(0));
-        state(d, 0, OPEN, NONE, 0, 0);
+        t.state(d, 0, OPEN, NONE, 0, 0);
         d.version(0, 7);
         t.due(7, () -> d.resolve(0));
         d.approve(0, 1);
         d.release(0);
         t.fails(Checks.STATE, () -> d.resolve(0));
-        state(d, 0, RELEASED, 7, 1, 1);
+        t.state(d, 0, RELEASED, 7, 1, 1);
     }
 
     private static void resolveOne() {
@@ -289,7 +265,7 @@ public final class PromisesTest {
         d.version(5, 300);
         t.due(300, () -> d.resolve(2));
         t.due(300, () -> d.resolve(0));
-        choice(d, 0, NONE, NONE, NONE, NONE, NONE, 3);
+        t.choice(d, 0, NONE, NONE, NONE, NONE, NONE, 3);
         d.replace(5, 3);
         t.due(NONE, () -> d.resolve(2));
         t.due(20, () -> d.resolve(1));
@@ -310,15 +286,15 @@ public final class PromisesTest {
         d.need(0, 3, 1, 1, 2);
         d.request(0, 0, 1);
         t.due(23, () -> d.resolve(0));
-        choice(d, 0, 3, 2);
+        t.choice(d, 0, 3, 2);
         d.need(0, 3, 1, 1, 1);
         t.due(13, () -> d.resolve(0));
         d.need(1, 1, 2, 2, 2);
         t.due(213, () -> d.resolve(0));
-        choice(d, 0, 3, 1, 2);
+        t.choice(d, 0, 3, 1, 2);
         d.need(0, 3, 2, 3, 3);
         t.due(2, () -> d.resolve(0));
-        choice(d, 0, 2);
+        t.choice(d, 0, 2);
         d.need(0, 2, 7, 1, 3);
         t.due(1, () -> d.resolve(0));
     }
@@ -336,12 +312,12 @@ public final class PromisesTest {
         d.need(1, 2, 2, 1, 1);
         d.request(0, 0, 1);
         d.resolve(0);
-        choice(d, 0, 2, 1, 2);
+        t.choice(d, 0, 2, 1, 2);
         // Part 3 comes to be needed behind part 1, though by the one that is chosen before it.
         d.need(2, 2, 3, 1, 2);
         d.need(1, 1, 3, 1, 1);
         d.resolve(0);
-        choice(d, 0, 2, 1, 2, 1);
+        t.choice(d, 0, 2, 1, 2, 1);
 
         Approvalyard wide = new Approvalyard();
         for (int part = 0; part < 4; part++) {
@@ -355,7 +331,7 @@ public final class PromisesTest {
         wide.request(0, 0, 1);
         wide.resolve(0);
         // Part 2 was needed before part 3, which is needed by part 1 alone: so part 2 keeps its greatest.
-        choice(wide, 0, 2, 2, 2, 1);
+        t.choice(wide, 0, 2, 2, 2, 1);
     }
 
     /** The last one that can be another one is changed first, and its needs go with it. */
@@ -375,16 +351,16 @@ public final class PromisesTest {
         d.need(2, 1, 3, 1, 1);
         d.request(0, 0, 1);
         t.due(6, () -> d.resolve(0));
-        choice(d, 0, 3, 2, 3, 3);
+        t.choice(d, 0, 3, 2, 3, 3);
         d.replace(3, 3);
         t.due(7, () -> d.resolve(0));
-        choice(d, 0, 3, 2, 2, NONE, 1);
+        t.choice(d, 0, 3, 2, 2, NONE, 1);
         d.replace(4, 1);
         t.due(6, () -> d.resolve(0));
-        choice(d, 0, 3, 2, 1, 1);
+        t.choice(d, 0, 3, 2, 1, 1);
         d.replace(3, 1);
         t.due(0, () -> d.resolve(0));
-        choice(d, 0, 2);
+        t.choice(d, 0, 2);
     }
 
     private static void resolveCycle() {
@@ -409,24 +385,24 @@ public final class PromisesTest {
     }
 
     private static void resolveAgain() {
-        Approvalyard d = resolvedAt(50);
+        Approvalyard d = t.resolvedAt(50);
         d.approve(0, 1);
         d.version(0, 60);
-        state(d, 0, RESOLVED, 50, 1, 1);
+        t.state(d, 0, RESOLVED, 50, 1, 1);
         t.due(60, () -> d.resolve(0));
-        state(d, 0, RESOLVED, 60, 0, 0);
-        choice(d, 0, 2);
+        t.state(d, 0, RESOLVED, 60, 0, 0);
+        t.choice(d, 0, 2);
         t.due(1, () -> d.approve(0, 1));
         t.due(60, () -> d.resolve(0));
-        state(d, 0, RESOLVED, 60, 0, 0);
+        t.state(d, 0, RESOLVED, 60, 0, 0);
         t.due(1, () -> d.approve(0, 1));
         d.need(0, 1, 1, 1, 1);
         d.need(0, 2, 1, 1, 1);
         int entries = d.entries();
         t.due(NONE, () -> d.resolve(0));
         t.due(entries, () -> d.entries());
-        state(d, 0, RESOLVED, 60, 1, 1);
-        choice(d, 0, 2);
+        t.state(d, 0, RESOLVED, 60, 1, 1);
+        t.choice(d, 0, 2);
     }
 
     private static void chosen() {
@@ -437,9 +413,9 @@ public final class PromisesTest {
         d.version(7, 1);
         d.need(7, 2, 6, 1, 3);
         d.request(0, 7, 1);
-        choice(d, 0);
+        t.choice(d, 0);
         d.resolve(0);
-        choice(d, 0, NONE, NONE, NONE, NONE, NONE, NONE, 1, 2);
+        t.choice(d, 0, NONE, NONE, NONE, NONE, NONE, NONE, 1, 2);
         t.fails(Checks.INDEX, () -> d.chosen(-1, 0));
         t.fails(Checks.INDEX, () -> d.chosen(1, 0));
         t.fails(Checks.INDEX, () -> d.chosen(0, -1));
@@ -478,7 +454,7 @@ public final class PromisesTest {
         t.due(69, () -> d.leave(4, 3, 60));
         t.due(5, () -> d.entries());
 
-        Approvalyard away = resolvedAt(50);
+        Approvalyard away = t.resolvedAt(50);
         away.leave(1, 2, 2);
         t.fails(Checks.STATE, () -> away.approve(0, 1));
         away.pass(1);
@@ -488,27 +464,27 @@ public final class PromisesTest {
     }
 
     private static void leaveInPlace() {
-        Approvalyard d = resolvedAt(150);
+        Approvalyard d = t.resolvedAt(150);
         d.limit(1, 150);
         d.leave(1, 2, 10);
         t.due(1, () -> d.approve(0, 2));
         d.leave(1, 3, 2);
-        state(d, 0, RESOLVED, 150, 1, 1);
+        t.state(d, 0, RESOLVED, 150, 1, 1);
         d.resolve(0);
         t.fails(Checks.STATE, () -> d.approve(0, 2));
         t.due(1, () -> d.approve(0, 3));
         d.leave(1, 2, 4);
         t.due(1, () -> d.approve(0, 2));
-        state(d, 0, RESOLVED, 150, 2, 1);
+        t.state(d, 0, RESOLVED, 150, 2, 1);
         d.pass(2);
-        state(d, 0, RESOLVED, 150, 1, 1);
+        t.state(d, 0, RESOLVED, 150, 1, 1);
         t.fails(Checks.STATE, () -> d.approve(0, 1));
         d.leave(1, 2, 1);
         d.pass(1);
         t.due(1, () -> d.approve(0, 1));
-        state(d, 0, RESOLVED, 150, 2, 1);
+        t.state(d, 0, RESOLVED, 150, 2, 1);
         d.pass(1);
-        state(d, 0, RESOLVED, 150, 1, 1);
+        t.state(d, 0, RESOLVED, 150, 1, 1);
     }
 
     private static void approveWrong() {
@@ -532,7 +508,7 @@ public final class PromisesTest {
     }
 
     private static void approveOwn() {
-        Approvalyard d = resolvedAt(101);
+        Approvalyard d = t.resolvedAt(101);
         for (int person = 0; person < 8; person++) {
             int each = person;
             t.fails(Checks.STATE, () -> d.approve(0, each));
@@ -540,7 +516,7 @@ public final class PromisesTest {
         d.limit(7, 101);
         t.due(7, () -> d.approve(0, 7));
         d.limit(7, 0);
-        state(d, 0, RESOLVED, 101, 1, 1);
+        t.state(d, 0, RESOLVED, 101, 1, 1);
         t.fails(Checks.STATE, () -> d.approve(0, 7));
         // The own limit goes before that of one on leave with a lower number, and does not end.
         d.limit(6, 101);
@@ -548,17 +524,17 @@ public final class PromisesTest {
         d.leave(5, 6, 1);
         t.due(6, () -> d.approve(0, 6));
         d.pass(1);
-        state(d, 0, RESOLVED, 101, 2, 1);
+        t.state(d, 0, RESOLVED, 101, 2, 1);
 
-        Approvalyard free = resolvedAt(0);
+        Approvalyard free = t.resolvedAt(0);
         free.limit(1, 0);
-        state(free, 0, RESOLVED, 0, 0, 0);
+        t.state(free, 0, RESOLVED, 0, 0, 0);
         t.due(1, () -> free.approve(0, 1));
-        state(free, 0, RESOLVED, 0, 1, 1);
+        t.state(free, 0, RESOLVED, 0, 1, 1);
     }
 
     private static void approveDelegate() {
-        Approvalyard d = resolvedAt(150);
+        Approvalyard d = t.resolvedAt(150);
         d.limit(4, 150);
         d.limit(5, 1000);
         d.limit(3, 149);
@@ -569,16 +545,16 @@ public final class PromisesTest {
         t.fails(Checks.STATE, () -> d.approve(0, 1));
         t.fails(Checks.STATE, () -> d.approve(0, 2));
         d.pass(2);
-        state(d, 0, RESOLVED, 150, 1, 1);
+        t.state(d, 0, RESOLVED, 150, 1, 1);
         d.pass(1);
-        state(d, 0, RESOLVED, 150, 0, 0);
+        t.state(d, 0, RESOLVED, 150, 0, 0);
         t.due(5, () -> d.approve(0, 1));
         t.due(4, () -> d.approve(0, 4));
         d.pass(60);
-        state(d, 0, RESOLVED, 150, 1, 1);
+        t.state(d, 0, RESOLVED, 150, 1, 1);
 
         // The one on leave may be that of the request, but the delegate may not, nor may one on leave.
-        Approvalyard own = resolvedAt(150);
+        Approvalyard own = t.resolvedAt(150);
         own.limit(0, 200);
         own.limit(1, 200);
         own.leave(0, 2, 5);
@@ -592,21 +568,21 @@ public final class PromisesTest {
         own.pass(1);
         t.due(0, () -> own.approve(0, 2));
         own.pass(3);
-        state(own, 0, RESOLVED, 150, 1, 1);
+        t.state(own, 0, RESOLVED, 150, 1, 1);
         own.pass(1);
-        state(own, 0, RESOLVED, 150, 0, 0);
+        t.state(own, 0, RESOLVED, 150, 0, 0);
         t.fails(Checks.STATE, () -> own.approve(0, 2));
         t.fails(Checks.STATE, () -> own.approve(0, 0));
     }
 
     private static void approveHalf() {
-        Approvalyard d = resolvedAt(201);
+        Approvalyard d = t.resolvedAt(201);
         d.limit(1, 201);
         d.leave(1, 2, 60);
         t.fails(Checks.STATE, () -> d.approve(0, 2));
         d.limit(2, 101);
         t.due(1, () -> d.approve(0, 2));
-        Approvalyard even = resolvedAt(200);
+        Approvalyard even = t.resolvedAt(200);
         even.limit(1, 199);
         even.leave(1, 2, 60);
         t.fails(Checks.STATE, () -> even.approve(0, 2));
@@ -618,7 +594,7 @@ public final class PromisesTest {
     }
 
     private static void approveAgain() {
-        Approvalyard d = resolvedAt(150);
+        Approvalyard d = t.resolvedAt(150);
         d.limit(1, 150);
         d.leave(1, 2, 3);
         t.due(1, () -> d.approve(0, 2));
@@ -626,7 +602,7 @@ public final class PromisesTest {
         t.fails(Checks.STATE, () -> d.approve(0, 2));
         d.pass(3);
         t.due(2, () -> d.approve(0, 2));
-        state(d, 0, RESOLVED, 150, 1, 1);
+        t.state(d, 0, RESOLVED, 150, 1, 1);
         d.request(3, 0, 1);
         d.resolve(1);
         t.due(2, () -> d.approve(1, 2));
@@ -646,11 +622,11 @@ public final class PromisesTest {
         int entries = d.entries();
         d.release(0);
         t.due(entries + 1, () -> d.entries());
-        state(d, 0, RELEASED, 100, 1, 1);
-        choice(d, 0, 1);
+        t.state(d, 0, RELEASED, 100, 1, 1);
+        t.choice(d, 0, 1);
         t.fails(Checks.STATE, () -> d.release(0));
 
-        Approvalyard late = resolvedAt(150);
+        Approvalyard late = t.resolvedAt(150);
         late.limit(1, 150);
         late.leave(1, 2, 3);
         late.approve(0, 2);
@@ -658,36 +634,36 @@ public final class PromisesTest {
         t.fails(Checks.STATE, () -> late.release(0));
         late.approve(0, 1);
         late.release(0);
-        state(late, 0, RELEASED, 150, 1, 1);
+        t.state(late, 0, RELEASED, 150, 1, 1);
 
-        Approvalyard ends = resolvedAt(150);
+        Approvalyard ends = t.resolvedAt(150);
         ends.limit(1, 150);
         ends.leave(1, 2, 3);
         ends.approve(0, 2);
         ends.release(0);
         ends.pass(3);
-        state(ends, 0, RELEASED, 150, 0, 0);
+        t.state(ends, 0, RELEASED, 150, 0, 0);
     }
 
     private static void coveredByTwo() {
         for (int cost = 500; cost <= 501; cost++) {
             int two = cost == 501 ? 1 : 0;
-            Approvalyard d = resolvedAt(cost);
+            Approvalyard d = t.resolvedAt(cost);
             d.limit(1, cost);
             d.limit(2, cost);
             d.approve(0, 1);
-            state(d, 0, RESOLVED, cost, 1, 1 - two);
+            t.state(d, 0, RESOLVED, cost, 1, 1 - two);
             if (two == 1) {
                 t.fails(Checks.STATE, () -> d.release(0));
                 t.fails(Checks.STATE, () -> d.approve(0, 1));
             }
             d.approve(0, 2);
-            state(d, 0, RESOLVED, cost, 2, 1);
+            t.state(d, 0, RESOLVED, cost, 2, 1);
             d.release(0);
-            state(d, 0, RELEASED, cost, 2, 1);
+            t.state(d, 0, RELEASED, cost, 2, 1);
         }
         // A delegate and who was on leave are unlike people, as are two delegates of one.
-        Approvalyard d = resolvedAt(600);
+        Approvalyard d = t.resolvedAt(600);
         d.limit(1, 600);
         d.limit(2, 300);
         d.limit(3, 300);
@@ -695,13 +671,13 @@ public final class PromisesTest {
         t.due(1, () -> d.approve(0, 2));
         d.leave(1, 3, 8);
         t.due(1, () -> d.approve(0, 3));
-        state(d, 0, RESOLVED, 600, 2, 1);
+        t.state(d, 0, RESOLVED, 600, 2, 1);
         d.pass(8);
-        state(d, 0, RESOLVED, 600, 1, 0);
+        t.state(d, 0, RESOLVED, 600, 1, 0);
         t.due(1, () -> d.approve(0, 1));
-        state(d, 0, RESOLVED, 600, 2, 1);
+        t.state(d, 0, RESOLVED, 600, 2, 1);
         d.pass(1);
-        state(d, 0, RESOLVED, 600, 1, 0);
+        t.state(d, 0, RESOLVED, 600, 1, 0);
     }
 
     private static void pass() {
@@ -727,14 +703,14 @@ public final class PromisesTest {
         t.fails(Checks.ARGUMENT, () -> d.ofRequest(0, -1));
         t.fails(Checks.ARGUMENT, () -> d.ofRequest(0, 4));
         t.fails(Checks.ARGUMENT, () -> d.ofRequest(0, LEAST));
-        state(d, 0, OPEN, NONE, 0, 0);
+        t.state(d, 0, OPEN, NONE, 0, 0);
         d.resolve(0);
-        state(d, 0, RESOLVED, 0, 0, 0);
+        t.state(d, 0, RESOLVED, 0, 0, 0);
         d.approve(0, 1);
         d.approve(0, 2);
-        state(d, 0, RESOLVED, 0, 2, 1);
+        t.state(d, 0, RESOLVED, 0, 2, 1);
         d.release(0);
-        state(d, 0, RELEASED, 0, 2, 1);
+        t.state(d, 0, RELEASED, 0, 2, 1);
     }
 
     private static void coveredAnew() {
@@ -815,7 +791,7 @@ public final class PromisesTest {
         d.leave(1, 2, 5);
         t.due(-1.0f, () -> d.strain(0));
 
-        Approvalyard free = resolvedAt(0);
+        Approvalyard free = t.resolvedAt(0);
         t.due(0.0f, () -> free.strain(0));
         for (int person = 1; person < 8; person++) {
             free.limit(person, 0);
@@ -853,7 +829,7 @@ public final class PromisesTest {
 
     /** All 512 calls of an object may be told in the book, and all of them count when it is judged anew. */
     private static void fullBook() {
-        Approvalyard d = resolvedAt(150);
+        Approvalyard d = t.resolvedAt(150);
         for (int call = 4; call <= 510; call++) {
             d.limit(7, call);
         }
@@ -861,14 +837,14 @@ public final class PromisesTest {
         d.request(7, 0, 1);
         t.due(512, () -> d.entries());
 
-        Approvalyard last = resolvedAt(100);
+        Approvalyard last = t.resolvedAt(100);
         for (int call = 4; call <= 511; call++) {
             last.pass(1);
         }
         t.due(false, () -> last.isCoveredAnew(0));
         last.approve(0, 1);
         t.due(512, () -> last.entries());
-        state(last, 0, RESOLVED, 100, 1, 1);
+        t.state(last, 0, RESOLVED, 100, 1, 1);
     }
 
     /** Person 0 is one like the others: in approvals, as a delegate and for the strain. */
@@ -882,18 +858,18 @@ public final class PromisesTest {
         t.due(0, () -> d.approve(0, 0));
         d.limit(1, 600);
         t.due(1, () -> d.approve(0, 1));
-        state(d, 0, RESOLVED, 600, 2, 1);
+        t.state(d, 0, RESOLVED, 600, 2, 1);
         t.due(600, () -> d.resolve(0));
-        state(d, 0, RESOLVED, 600, 0, 0);
+        t.state(d, 0, RESOLVED, 600, 0, 0);
         d.limit(0, 300);
         d.leave(1, 0, 2);
         t.due(1, () -> d.approve(0, 0));
         t.due(1, () -> d.replace(0, 1));
-        state(d, 0, OPEN, NONE, 0, 0);
+        t.state(d, 0, OPEN, NONE, 0, 0);
     }
 
     private static void throwingChangesNothing() {
-        Approvalyard d = resolvedAt(100);
+        Approvalyard d = t.resolvedAt(100);
         d.version(0, 1);
         d.version(0, 1);
         d.approve(0, 1);
@@ -912,7 +888,7 @@ public final class PromisesTest {
         t.fails(Checks.ARGUMENT, () -> d.pass(61));
         t.fails(Checks.ARGUMENT, () -> d.ofRequest(0, 4));
         t.due(entries, () -> d.entries());
-        state(d, 0, RESOLVED, 100, 1, 1);
+        t.state(d, 0, RESOLVED, 100, 1, 1);
         t.fails(Checks.INDEX, () -> d.replace(1, 1));
         t.fails(Checks.INDEX, () -> d.ofRequest(1, 0));
         t.due(100, () -> d.limit(1, 100));
