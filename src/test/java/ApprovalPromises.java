@@ -370,6 +370,7 @@ final class ApprovalPromises {
         all.add(new Sentence(in, "Returns whether a request is covered, judged from the book.", t -> {
             Approvalyard d = withResolved(2);
             d.approve(1, 1);
+            d.limit(1, 0);
             int entries = d.entries();
             for (int times = 0; times < 3; times++) {
                 t.due(false, () -> d.isCoveredAnew(0));

@@ -29,12 +29,21 @@ final class BookSentences {
                 "IndexOutOfBoundsException is thrown where there is no such part, version, request or person;"
                 + " IllegalArgumentException if another argument is out of range.", BookSentences::farOut));
         all.add(new Sentence(in, "The constants: `NONE = -1`: There is none.",
-                t -> t.due(-1, () -> Approvalyard.NONE)));
+                t -> t.due(-1, () -> constant("NONE"))));
         all.add(new Sentence(in, "`OPEN = 0, RESOLVED = 1, RELEASED = 2`: How requests are.", t -> {
-            t.due(0, () -> OPEN);
-            t.due(1, () -> RESOLVED);
-            t.due(2, () -> RELEASED);
+            t.due(0, () -> constant("OPEN"));
+            t.due(1, () -> constant("RESOLVED"));
+            t.due(2, () -> constant("RELEASED"));
         }));
+    }
+
+    /** The constant in the class as it is now: a name alone would be its value when the test was compiled. */
+    private static Object constant(String name) {
+        try {
+            return Approvalyard.class.getField(name).get(null);
+        } catch (ReflectiveOperationException e) {
+            return "no constant " + name;
+        }
     }
 
     /** Each of the 512 calls has its entry, and the last one counts as the others do. */
@@ -179,6 +188,7 @@ final class BookSentences {
         }
         d.limit(4, 453);
         d.limit(5, 9);
+        d.leave(3, 6, 60);
         d.leave(4, 6, 20);
         d.leave(6, 5, 2);
         d.pass(4);
@@ -213,11 +223,12 @@ final class BookSentences {
         for (int[] a : new int[][] {{8, 5}, {5, -1}, {5, 10001}}) {
             all.add(() -> d.limit(a[0], a[1]));
         }
-        for (int[] a : new int[][] {{8, 1, 1}, {1, 8, 1}, {1, 1, 1}, {1, 2, 0}, {1, 2, 61}}) {
+        for (int[] a : new int[][] {{8, 1, 1}, {1, 8, 1}, {1, 1, 1}, {1, 2, 0}, {1, 2, 61}, {3, 8, 1}, {4, 4, 1},
+            {4, 5, 0}, {4, 5, 61}}) {
             all.add(() -> d.leave(a[0], a[1], a[2]));
         }
         // Not RESOLVED, OPEN or released; of the person; on leave; limit and half too low; has done so.
-        for (int[] a : new int[][] {{4, 1}, {1, 8}, {3, 1}, {0, 7}, {2, 2}, {2, 4}, {2, 5}, {1, 6}}) {
+        for (int[] a : new int[][] {{4, 1}, {1, 8}, {3, 1}, {0, 7}, {1, 1}, {2, 2}, {2, 4}, {2, 5}, {1, 6}}) {
             all.add(() -> d.approve(a[0], a[1]));
         }
         for (int number : new int[] {-1, 4, 0, 2, 3}) {
@@ -237,27 +248,24 @@ final class BookSentences {
         return "released";
     }
 
-    /** All that can be asked of a desk, and then all that shows by what it still takes. */
+    /** All that can be asked of a desk, as days go by, and then all that shows by what it still takes. */
     private static List<Object> allOf(Approvalyard d) {
         List<Object> all = new ArrayList<>();
         ask(d, all);
-        for (int person = 0; person < 8; person++) {
-            int p = person;
-            for (int request = 0; request < 4; request++) {
-                int r = request;
-                all.add(Checks.answerOf(() -> d.approve(r, p)));
-            }
+        for (int days : new int[] {1, 14, 1}) {
+            all.add(d.pass(days));
+            ask(d, all);
         }
-        all.add(Checks.answerOf(() -> refusedRelease(d, 1)));
-        all.add(Checks.answerOf(() -> refusedRelease(d, 2)));
-        all.add(Checks.answerOf(() -> d.pass(15)));
-        ask(d, all);
-        all.add(Checks.answerOf(() -> d.pass(1)));
-        ask(d, all);
-        for (int request = 0; request < 4; request++) {
-            int r = request;
-            all.add(Checks.answerOf(() -> d.resolve(r)));
+        for (int number = 0; number < 4; number++) {
+            int n = number;
+            all.add(Checks.answerOf(() -> refusedRelease(d, n)));
+            all.add(Checks.answerOf(() -> d.resolve(n)));
         }
+        for (int part = 0; part < 8; part++) {
+            all.add(d.request(part, part, 1));
+            all.add(d.resolve(4 + part));
+        }
+        whoIsAway(d, all);
         for (int part = 0; part < 8; part++) {
             int p = part;
             all.add(Checks.answerOf(() -> d.version(p, 10)));
@@ -267,13 +275,27 @@ final class BookSentences {
                 all.add(Checks.answerOf(() -> d.replace(p, v)));
             }
         }
-        for (int person = 0; person < 8; person++) {
-            int p = person;
-            all.add(Checks.answerOf(() -> d.limit(p, 0)));
-        }
-        all.add(Checks.answerOf(() -> d.request(0, 0, 1)));
         ask(d, all);
         return all;
+    }
+
+    /** The limits, who can approve, and for whom, if one after the other is the only one whose limit is enough. */
+    private static void whoIsAway(Approvalyard d, List<Object> all) {
+        for (int person = 0; person < 8; person++) {
+            all.add(d.limit(person, 75));
+        }
+        for (int person = 0; person < 8; person++) {
+            d.limit(person, 150);
+            for (int request : new int[] {2, 5}) {
+                int r = request;
+                all.add(d.resolve(r));
+                for (int other = 0; other < 8; other++) {
+                    int o = other;
+                    all.add(Checks.answerOf(() -> d.approve(r, o)));
+                }
+            }
+            d.limit(person, 75);
+        }
     }
 
     private static void ask(Approvalyard d, List<Object> all) {

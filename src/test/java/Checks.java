@@ -1,5 +1,5 @@
 /** Counts what answers as it is due, and tells what does not, by the line of the test that asked. */
-final class Checks {
+public final class Checks {
     interface Call {
         Object answer();
     }

@@ -54,9 +54,10 @@ final class PartPromises {
             d.request(0, 6, 1);
             t.due(71, () -> d.resolve(0));
             t.due(2, () -> d.chosen(0, 6));
-            t.fails(Checks.INDEX, () -> d.replace(6, 3));
-            t.fails(Checks.INDEX, () -> d.replace(5, 1));
-            t.fails(Checks.INDEX, () -> d.replace(7, 1));
+            for (int part = 0; part < 8; part++) {
+                int p = part;
+                t.fails(Checks.INDEX, () -> d.replace(p, p == 6 ? 3 : 1));
+            }
         }));
         all.add(new Sentence(in, "`part`: 0 to 7",
                 t -> t.range(0, 7, Checks.INDEX, part -> new Approvalyard().version(part, 0))));

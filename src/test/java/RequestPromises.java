@@ -112,6 +112,10 @@ final class RequestPromises {
             d.replace(2, 1);
             t.due(NONE, () -> d.resolve(0));
             t.due(NONE, () -> d.resolve(1));
+            // None as well for one that is RESOLVED already.
+            d.need(1, 1, 2, 1, 3);
+            t.state(d, 2, RESOLVED, 0, 0, 0);
+            t.due(NONE, () -> d.resolve(2));
         }));
         all.add(new Sentence(in, "Throws `IndexOutOfBoundsException` if there is no such request", t -> {
             Approvalyard d = withRequests(1);
@@ -230,7 +234,7 @@ final class RequestPromises {
         }));
     }
 
-    /** Of so many requests that are all resolved and approved, one is released; the answer is its state then. */
+    /** Of so many requests that are all resolved and approved, one is released; the answer is how many there are. */
     private static int releasedOf(int count, int request) {
         Approvalyard d = withRequests(count);
         for (int number = 0; number < count; number++) {
@@ -238,7 +242,7 @@ final class RequestPromises {
             d.approve(number, 1);
         }
         d.release(request);
-        return d.ofRequest(request, 0);
+        return count;
     }
 
     private static void ofRequest(List<Sentence> all, String in) {

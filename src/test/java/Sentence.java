@@ -5,8 +5,8 @@ import java.util.ArrayList;
 import java.util.List;
 
 /** A sentence of the document, in the part of it that has that heading, with the test that it holds. */
-record Sentence(String heading, String text, Test test) {
-    interface Test {
+public record Sentence(String heading, String text, Test test) {
+    public interface Test {
         void run(Checks t);
     }
 
@@ -29,6 +29,15 @@ record Sentence(String heading, String text, Test test) {
             t.judge("no " + e, e);
         }
         return t.wrong();
+    }
+
+    /** The same by the sentence's name, for who loads the tests with a class that is broken. */
+    public static int wrongAnswersOf(String name) {
+        int wrong = 0;
+        for (Sentence sentence : all()) {
+            wrong += sentence.name().equals(name) ? sentence.wrongAnswers() : 0;
+        }
+        return wrong;
     }
 
     String name() {

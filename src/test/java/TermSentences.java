@@ -706,6 +706,10 @@ final class TermSentences {
             d.limit(person, 70);
         }
         t.due(1.0f, () -> d.strain(0));
+        for (int person = 1; person < 8; person++) {
+            d.limit(person, 69);
+        }
+        t.due(-1.0f, () -> d.strain(0));
         Approvalyard free = t.resolvedAt(0);
         t.due(0.0f, () -> free.strain(0));
         for (int person = 1; person < 8; person++) {
