@@ -172,7 +172,7 @@ final class BookSentences {
         }
     }
 
-    /** Request 0 is released, 1 is resolved with an approval, 2 is resolved, 3 is OPEN; part 7 and a version are full. */
+    /** Request 0 is released, 1 resolved with an approval, 2 resolved, 3 OPEN; part 7 and its version 3 are full. */
     private static Approvalyard busy() {
         Approvalyard d = new Approvalyard();
         for (int version = 1; version <= 3; version++) {
@@ -183,8 +183,9 @@ final class BookSentences {
             d.need(7, 3, 1 + need % 3, 1, 3);
         }
         d.replace(7, 2);
+        int[] parts = {7, 1, 2, 4};
         for (int number = 0; number < 4; number++) {
-            d.request(number, number == 3 ? 4 : number == 0 ? 7 : number, 1);
+            d.request(number, parts[number], 1);
         }
         d.limit(4, 453);
         d.limit(5, 9);

@@ -2,8 +2,8 @@ import java.util.List;
 
 /** The sentences of the promises 1 to 4: a new object, version, need and replace. */
 final class PartPromises {
-    private static final int NONE = Approvalyard.NONE, OPEN = Approvalyard.OPEN;
-    private static final int RESOLVED = Approvalyard.RESOLVED, RELEASED = Approvalyard.RELEASED;
+    private static final int NONE = Approvalyard.NONE;
+    private static final int OPEN = Approvalyard.OPEN, RELEASED = Approvalyard.RELEASED;
 
     private PartPromises() {
     }

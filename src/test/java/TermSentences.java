@@ -497,6 +497,19 @@ final class TermSentences {
             }
             t.state(d, 0, RESOLVED, cost, 3, 1);
         }
+        // All who can approve a request of person 7 count alike, the first one as the others.
+        for (int first = 0; first < 7; first++) {
+            Approvalyard d = new Approvalyard();
+            d.version(0, 600);
+            d.request(7, 0, 1);
+            d.resolve(0);
+            for (int count = 1; count <= 2; count++) {
+                int person = (first + count) % 7;
+                d.limit(person, 600);
+                t.due(person, () -> d.approve(0, person));
+                t.state(d, 0, RESOLVED, 600, count, count - 1);
+            }
+        }
         // Two that one person has given, one of which has ended, are no two of unlike people.
         Approvalyard d = t.resolvedAt(600);
         d.limit(1, 600);
@@ -641,6 +654,15 @@ final class TermSentences {
         t.choice(d, 1, 2, 2);
         t.state(d, 3, OPEN, NONE, 0, 0);
         t.fails(Checks.STATE, () -> d.approve(1, 3));
+        // An approval by each of the others ends.
+        d.version(0, 5);
+        d.request(7, 0, 3);
+        d.resolve(4);
+        for (int person = 0; person < 7; person++) {
+            d.approve(4, person);
+        }
+        t.due(7, () -> d.replace(0, 3));
+        t.state(d, 4, OPEN, NONE, 0, 0);
         // One that nobody has approved is open then, too.
         d.version(1, 30);
         t.due(30, () -> d.resolve(3));
@@ -689,6 +711,9 @@ final class TermSentences {
         t.due(70.0f / 100.0f, () -> d.strain(0));
         d.limit(0, 10000);
         t.due(70.0f / 100.0f, () -> d.strain(0));
+        d.request(7, 0, 1);
+        d.resolve(1);
+        t.due(70.0f / 10000.0f, () -> d.strain(1));
         d.limit(7, 170);
         d.limit(1, 130);
         t.due(70.0f / 170.0f, () -> d.strain(0));
