@@ -65,6 +65,16 @@ public final class Checks {
         return d;
     }
 
+    /** A desk with so many parts, each in two versions without a cost. */
+    static Approvalyard partsOfTwo(int parts) {
+        Approvalyard d = new Approvalyard();
+        for (int part = 0; part < parts; part++) {
+            d.version(part, 0);
+            d.version(part, 0);
+        }
+        return d;
+    }
+
     /** All that can be asked of a request, but for its choice and its strain. */
     void state(Approvalyard d, int request, int state, int cost, int approvals, int covered) {
         due(state, () -> d.ofRequest(request, 0));

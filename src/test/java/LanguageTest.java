@@ -1,5 +1,4 @@
 import java.io.IOException;
-import java.lang.reflect.Constructor;
 import java.lang.reflect.Field;
 import java.lang.reflect.Method;
 import java.lang.reflect.Modifier;
@@ -8,17 +7,11 @@ import java.nio.file.Path;
 import java.util.ArrayList;
 import java.util.Arrays;
 import java.util.List;
-import java.util.TreeSet;
 import java.util.regex.Matcher;
 import java.util.regex.Pattern;
 
 /** The rules of ../shared/LANGUAGE.md that can be seen from the text of the class or from its members. */
 public final class LanguageTest {
-    private static final String[] FACE = {
-        "version(int,int)", "need(int,int,int,int,int)", "replace(int,int)", "request(int,int,int)", "resolve(int)",
-        "chosen(int,int)", "limit(int,int)", "leave(int,int,int)", "approve(int,int)", "release(int)", "pass(int)",
-        "ofRequest(int,int)", "isCoveredAnew(int)", "strain(int)", "entries()"
-    };
     private static final String[] NOT_USED = {
         "->", "::", "\\bimport\\b", "\\bpackage\\b", "\\bcatch\\b", "\\bfinally\\b", "\\bsynchronized\\b",
         "\\bassert\\b", "\\binstanceof\\b", "\\bnull\\b", "\\bObject\\b", "\\bSystem\\b", "\\bString\\b", "\\bMath\\b",
@@ -31,49 +24,18 @@ public final class LanguageTest {
     public static void main(String[] args) throws IOException {
         String text = Files.readString(Path.of(args[0]));
         String code = withoutTexts(text);
-        face();
         classes();
-        names();
+        names(new Face());
         words(code);
         machineNeverThrows(code);
         lengths(code);
+        made(code);
         t.end();
     }
 
     private static String withoutTexts(String text) {
         String code = text.replaceAll("(?s)/\\*.*?\\*/", "").replaceAll("//.*", "");
         return code.replaceAll("\"[^\"\\n]*\"", "\"\"");
-    }
-
-    private static void face() {
-        TreeSet<String> methods = new TreeSet<>();
-        for (Method method : Approvalyard.class.getDeclaredMethods()) {
-            if (!Modifier.isPrivate(method.getModifiers())) {
-                methods.add(signature(method));
-                t.judge(true, Modifier.isPublic(method.getModifiers()) && !Modifier.isStatic(method.getModifiers()));
-            }
-        }
-        t.judge(new TreeSet<>(Arrays.asList(FACE)), methods);
-        TreeSet<String> fields = new TreeSet<>();
-        for (Field field : Approvalyard.class.getDeclaredFields()) {
-            if (!Modifier.isPrivate(field.getModifiers())) {
-                fields.add(Modifier.toString(field.getModifiers()) + " " + field.getType() + " " + field.getName());
-            }
-        }
-        String kind = "public static final int ";
-        t.judge(new TreeSet<>(List.of(kind + "NONE", kind + "OPEN", kind + "RESOLVED", kind + "RELEASED")), fields);
-        Constructor<?>[] constructors = Approvalyard.class.getDeclaredConstructors();
-        t.judge(1, constructors.length);
-        t.judge("public Approvalyard()", constructors[0].toString());
-        t.judge("public final", Modifier.toString(Approvalyard.class.getModifiers()));
-    }
-
-    private static String signature(Method method) {
-        List<String> types = new ArrayList<>();
-        for (Class<?> type : method.getParameterTypes()) {
-            types.add(type.getName());
-        }
-        return method.getName() + "(" + String.join(",", types) + ")";
     }
 
     private static void classes() {
@@ -93,11 +55,8 @@ public final class LanguageTest {
         }
     }
 
-    private static void names() {
-        List<String> names = new ArrayList<>();
-        for (String each : FACE) {
-            names.add(each.substring(0, each.indexOf('(')));
-        }
+    private static void names(Face face) {
+        List<String> names = face.calls.stream().map(Face.Call::name).toList();
         for (Class<?> each : all()) {
             for (Method method : each.getDeclaredMethods()) {
                 boolean isFace = Modifier.isPublic(method.getModifiers()) && each == Approvalyard.class;
@@ -155,5 +114,15 @@ public final class LanguageTest {
             t.judge(true, count(method.group(2), "\n") <= 60);
         }
         t.judge(true, found > 50);
+    }
+
+    /** All calls of a run live in one room, so a call makes nothing but the exception that it throws. */
+    private static void made(String code) {
+        Pattern field = Pattern.compile("\\s+((private )?final \\w+ \\w+|book|desk|deskAnew|search|cells) = new .*;");
+        for (String line : code.split("\n")) {
+            if (line.contains("new ") && !line.contains("throw new ")) {
+                t.judge(line + " makes a field", line + (field.matcher(line).matches() ? " makes a field" : ""));
+            }
+        }
     }
 }

@@ -301,12 +301,7 @@ public final class PromisesTest {
 
     /** Which part comes first decides which of two choices that both hold is taken. */
     private static void resolveOrder() {
-        Approvalyard d = new Approvalyard();
-        for (int part = 0; part < 4; part++) {
-            for (int version = 1; version <= 2; version++) {
-                d.version(part, 0);
-            }
-        }
+        Approvalyard d = Checks.partsOfTwo(4);
         d.need(0, 2, 2, 1, 2);
         d.need(0, 2, 1, 1, 2);
         d.need(1, 2, 2, 1, 1);
@@ -319,11 +314,7 @@ public final class PromisesTest {
         d.resolve(0);
         t.choice(d, 0, 2, 1, 2, 1);
 
-        Approvalyard wide = new Approvalyard();
-        for (int part = 0; part < 4; part++) {
-            wide.version(part, 0);
-            wide.version(part, 0);
-        }
+        Approvalyard wide = Checks.partsOfTwo(4);
         wide.need(0, 2, 1, 1, 2);
         wide.need(0, 2, 2, 1, 2);
         wide.need(1, 2, 3, 1, 2);

@@ -341,11 +341,7 @@ final class TermSentences {
 
     /** Of two parts whose greatest versions exclude each other, the one that was needed first has it. */
     private static void neededFirst(Checks t) {
-        Approvalyard d = new Approvalyard();
-        for (int part = 0; part < 4; part++) {
-            d.version(part, 0);
-            d.version(part, 0);
-        }
+        Approvalyard d = Checks.partsOfTwo(4);
         d.need(0, 2, 1, 2, 2);
         d.need(0, 2, 2, 1, 2);
         d.need(1, 2, 3, 1, 2);
@@ -354,11 +350,7 @@ final class TermSentences {
         d.resolve(0);
         // Part 2 was needed by part 0, part 3 only by part 1, which is chosen before part 2.
         t.choice(d, 0, 2, 2, 2, 1);
-        Approvalyard back = new Approvalyard();
-        for (int part = 0; part < 4; part++) {
-            back.version(part, 0);
-            back.version(part, 0);
-        }
+        Approvalyard back = Checks.partsOfTwo(4);
         // Version 2 of part 0 fails, so that it needed part 2 first does not count for version 1.
         back.need(0, 2, 2, 1, 2);
         back.need(0, 2, 1, 1, 2);
@@ -373,11 +365,7 @@ final class TermSentences {
 
     private static void needsAsTold(Checks t) {
         for (int first = 1; first <= 2; first++) {
-            Approvalyard d = new Approvalyard();
-            for (int part = 0; part < 3; part++) {
-                d.version(part, 0);
-                d.version(part, 0);
-            }
+            Approvalyard d = Checks.partsOfTwo(3);
             d.need(0, 2, first, 1, 2);
             d.need(0, 2, 3 - first, 1, 2);
             d.need(1, 2, 2, 1, 1);
@@ -525,6 +513,33 @@ final class TermSentences {
         d.pass(1);
         t.due(1, () -> d.approve(0, 1));
         t.state(d, 0, RESOLVED, 600, 1, 0);
+        unlikePeople(t);
+    }
+
+    /** An approval is of who gives it, as that of a delegate is, so two for one on leave are of unlike people. */
+    private static void unlikePeople(Checks t) {
+        Approvalyard d = t.resolvedAt(600);
+        d.limit(1, 600);
+        d.limit(2, 300);
+        d.limit(3, 300);
+        d.leave(1, 2, 9);
+        t.due(1, () -> d.approve(0, 2));
+        t.state(d, 0, RESOLVED, 600, 1, 0);
+        d.leave(1, 3, 5);
+        t.due(1, () -> d.approve(0, 3));
+        t.state(d, 0, RESOLVED, 600, 2, 1);
+        d.pass(5);
+        t.state(d, 0, RESOLVED, 600, 1, 0);
+        t.due(1, () -> d.approve(0, 1));
+        t.state(d, 0, RESOLVED, 600, 2, 1);
+        Approvalyard own = t.resolvedAt(600);
+        own.limit(1, 600);
+        own.limit(2, 300);
+        t.due(1, () -> own.approve(0, 1));
+        own.leave(1, 2, 9);
+        t.due(1, () -> own.approve(0, 2));
+        t.state(own, 0, RESOLVED, 600, 2, 1);
+        own.release(0);
     }
 
     private static void approving(List<Sentence> all) {

@@ -1,5 +1,5 @@
+import java.io.IOException;
 import java.util.List;
-import java.util.Map;
 
 /** Calls with any arguments, also after the 512th: only the exceptions of the document, and always an end. */
 public final class WildTest {
@@ -7,36 +7,20 @@ public final class WildTest {
         Integer.MIN_VALUE, Integer.MIN_VALUE + 1, -65536, -9, -2, -1, 0, 1, 2, 3, 4, 5, 6, 7, 8, 9, 29, 30, 31, 60, 61,
         500, 501, 511, 512, 513, 1000, 1001, 10000, 10001, 65536, 1 << 30, Integer.MAX_VALUE - 1, Integer.MAX_VALUE
     };
-    private static final Map<String, List<Class<?>>> MAY_THROW = Map.ofEntries(
-        Map.entry("version", List.of(Checks.INDEX, Checks.ARGUMENT, Checks.STATE)),
-        Map.entry("need", List.of(Checks.INDEX, Checks.ARGUMENT, Checks.STATE)),
-        Map.entry("replace", List.of(Checks.INDEX, Checks.STATE)),
-        Map.entry("request", List.of(Checks.INDEX, Checks.ARGUMENT, Checks.STATE)),
-        Map.entry("resolve", List.of(Checks.INDEX, Checks.STATE)),
-        Map.entry("chosen", List.of(Checks.INDEX)),
-        Map.entry("limit", List.of(Checks.INDEX, Checks.ARGUMENT)),
-        Map.entry("leave", List.of(Checks.INDEX, Checks.ARGUMENT)),
-        Map.entry("approve", List.of(Checks.INDEX, Checks.STATE)),
-        Map.entry("release", List.of(Checks.INDEX, Checks.STATE)),
-        Map.entry("pass", List.of(Checks.ARGUMENT)),
-        Map.entry("ofRequest", List.of(Checks.INDEX, Checks.ARGUMENT)),
-        Map.entry("isCoveredAnew", List.of(Checks.INDEX)),
-        Map.entry("strain", List.of(Checks.INDEX)),
-        Map.entry("entries", List.of()));
-
     private static final Checks t = new Checks("WildTest");
     private static final Calls calls = new Calls(5);
 
-    public static void main(String[] args) {
-        String[] names = MAY_THROW.keySet().stream().sorted().toArray(String[]::new);
+    public static void main(String[] args) throws IOException {
+        List<Face.Call> face = new Face().calls;
         for (int run = 0; run < 60; run++) {
             Approvalyard desk = new Approvalyard();
             for (int call = 0; call < 3000; call++) {
-                String name = names[calls.next(names.length)];
+                Face.Call each = face.get(calls.next(face.size()));
                 int[] a = {number(), number(), number(), number(), number()};
-                Object got = Checks.answerOf(() -> Calls.answer(desk, name, a));
-                boolean isFine = !(got instanceof Class<?>) || MAY_THROW.get(name).contains(got);
-                t.judge("an answer of the document", isFine ? "an answer of the document" : name + " " + got);
+                Object got = Checks.answerOf(() -> Calls.answer(desk, each.name(), a));
+                boolean isFine = !(got instanceof Class<?> thrown)
+                        || each.exceptions().contains(thrown.getSimpleName());
+                t.judge("an answer of the document", isFine ? "an answer of the document" : each.name() + " " + got);
             }
         }
         dearest();
