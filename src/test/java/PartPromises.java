@@ -272,14 +272,22 @@ final class PartPromises {
             d.approve(29, person);
         }
         t.due(7, () -> d.replace(0, 3));
-        Approvalyard ended = t.resolvedAt(150);
-        ended.limit(1, 150);
-        ended.limit(3, 150);
-        ended.leave(1, 2, 1);
-        ended.approve(0, 2);
-        ended.approve(0, 3);
-        ended.pass(1);
-        t.due(1, () -> ended.replace(0, 1));
+        endedBefore(t);
+    }
+
+    /** The approval of the delegate ends on the day 4. */
+    private static void endedBefore(Checks t) {
+        for (int day = 2; day <= 6; day++) {
+            Approvalyard d = t.resolvedAt(150);
+            d.limit(1, 150);
+            d.limit(3, 150);
+            d.leave(1, 2, 4);
+            d.approve(0, 2);
+            d.approve(0, 3);
+            d.pass(day);
+            int ended = day < 4 ? 2 : 1;
+            t.due(ended, () -> d.replace(0, 1));
+        }
     }
 
     private static void replaceRefused(List<Sentence> all, String in) {

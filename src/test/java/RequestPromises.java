@@ -231,7 +231,24 @@ final class RequestPromises {
             late.approve(0, 2);
             late.pass(1);
             t.fails(Checks.STATE, () -> late.release(0));
+            eachByItself(t);
         }));
+    }
+
+    /** How the other requests are does not count. */
+    private static void eachByItself(Checks t) {
+        Approvalyard d = withRequests(4);
+        for (int number = 1; number < 4; number++) {
+            d.resolve(number);
+        }
+        d.approve(1, 1);
+        d.approve(3, 1);
+        d.release(3);
+        t.fails(Checks.STATE, () -> d.release(0));
+        t.fails(Checks.STATE, () -> d.release(2));
+        t.fails(Checks.STATE, () -> d.release(3));
+        d.release(1);
+        t.state(d, 1, RELEASED, 100, 1, 1);
     }
 
     /** Of so many requests that are all resolved and approved, one is released; the answer is how many there are. */

@@ -66,6 +66,17 @@ final class TermSentences {
                 t.due(NONE, () -> d.resolve(0));
             }
         }
+        // Each need of a version has a part and versions of its own.
+        Approvalyard d = new Approvalyard();
+        d.version(0, 0);
+        for (int part = 1; part <= 4; part++) {
+            threeVersions(d, part, 10);
+            int count = part;
+            t.due(count, () -> d.need(0, 1, count, 1, new int[] {2, 1, 3, 2}[count - 1]));
+        }
+        d.request(0, 0, 1);
+        t.due(80, () -> d.resolve(0));
+        t.choice(d, 0, 1, 2, 1, 3, 2);
     }
 
     /** Part 0 has one version, that costs 1; part 1 has three, that cost 10, 20 and 30. */
@@ -143,6 +154,7 @@ final class TermSentences {
     }
 
     private static void personPartLeast(Checks t) {
+        eachOfThirty(t);
         for (int person = 0; person < 8; person++) {
             Approvalyard d = new Approvalyard();
             d.version(person, 100);
@@ -167,6 +179,31 @@ final class TermSentences {
                 d.replace(5, v);
             }
             t.due(NONE, () -> d.resolve(0));
+        }
+    }
+
+    /** A request is of a person, for a part and from a version of its own, whatever its number is. */
+    private static void eachOfThirty(Checks t) {
+        Approvalyard d = new Approvalyard();
+        for (int part = 0; part < 8; part++) {
+            threeVersions(d, part, 1);
+        }
+        for (int number = 0; number < 30; number++) {
+            int n = number, person = n % 8, part = (n + 4) % 8;
+            d.request(person, part, 1 + n % 3);
+            t.due(3, () -> d.resolve(n));
+            t.due(3, () -> d.chosen(n, part));
+            t.fails(Checks.STATE, () -> d.approve(n, person));
+            t.due(part, () -> d.approve(n, part));
+        }
+        for (int version = 3; version > 1; version--) {
+            for (int part = 0; part < 8; part++) {
+                d.replace(part, version);
+            }
+            for (int number = 0; number < 30; number++) {
+                int n = number, left = version - 1;
+                t.due(1 + n % 3 <= left ? left : NONE, () -> d.resolve(n));
+            }
         }
     }
 
@@ -267,12 +304,28 @@ final class TermSentences {
                 t.due(o < p ? NONE : 2, () -> d.chosen(p, o));
             }
         }
+        neededInARing(t);
         // What a version needs that is not chosen is not chosen.
         d.replace(4, 2);
         d.version(0, 1);
         d.need(0, 3, 6, 1, 1);
         t.due(2, () -> d.resolve(0));
         t.choice(d, 0, 3, NONE, NONE, NONE, NONE, NONE, 1);
+    }
+
+    /** All parts are needed, and that of the request as well, which is chosen already. */
+    private static void neededInARing(Checks t) {
+        Approvalyard d = new Approvalyard();
+        for (int part = 0; part < 8; part++) {
+            d.version(part, 1);
+        }
+        for (int part = 0; part < 7; part++) {
+            d.need(part, 1, 0 < part ? 0 : 1, 1, 1);
+            d.need(part, 1, part + 1, 1, 1);
+        }
+        d.request(0, 0, 1);
+        t.due(8, () -> d.resolve(0));
+        t.choice(d, 0, 1, 1, 1, 1, 1, 1, 1, 1);
     }
 
     private static void notReplaced(Checks t) {
@@ -498,6 +551,7 @@ final class TermSentences {
                 t.state(d, 0, RESOLVED, 600, count, count - 1);
             }
         }
+        ofTheRequest(t);
         // Two that one person has given, one of which has ended, are no two of unlike people.
         Approvalyard d = t.resolvedAt(600);
         d.limit(1, 600);
@@ -514,6 +568,30 @@ final class TermSentences {
         t.due(1, () -> d.approve(0, 1));
         t.state(d, 0, RESOLVED, 600, 1, 0);
         unlikePeople(t);
+    }
+
+    /** Those of other requests do not count, whoever has given them, and do not end when one is resolved again. */
+    private static void ofTheRequest(Checks t) {
+        for (int asker = 0; asker < 8; asker++) {
+            Approvalyard d = new Approvalyard();
+            d.version(0, 100);
+            for (int number = 0; number < 3; number++) {
+                d.request(asker, 0, 1);
+                d.resolve(number);
+            }
+            for (int person = 0; person < 8; person++) {
+                if (person != asker) {
+                    d.approve(1, person);
+                }
+            }
+            for (int times = 0; times < 2; times++) {
+                t.state(d, 0, RESOLVED, 100, 0, 0);
+                t.state(d, 1, RESOLVED, 100, 7, 1);
+                t.state(d, 2, RESOLVED, 100, 0, 0);
+                d.resolve(0);
+                d.resolve(2);
+            }
+        }
     }
 
     /** An approval is of who gives it, as that of a delegate is, so two for one on leave are of unlike people. */
@@ -569,6 +647,30 @@ final class TermSentences {
             d.limit(2, 10000);
             t.due(2, () -> d.approve(0, 2));
         }
+        byItsOwnCost(t);
+    }
+
+    /** The cost of another request does not count. */
+    private static void byItsOwnCost(Checks t) {
+        Approvalyard d = new Approvalyard();
+        for (int number = 0; number < 3; number++) {
+            d.version(number, 150 + 50 * number);
+            d.request(0, number, 1);
+            d.resolve(number);
+        }
+        d.limit(1, 200);
+        d.limit(2, 125);
+        d.leave(3, 2, 9);
+        d.limit(3, 1000);
+        t.due(1, () -> d.approve(0, 1));
+        t.due(1, () -> d.approve(1, 1));
+        t.fails(Checks.STATE, () -> d.approve(2, 1));
+        d.leave(3, 1, 9);
+        t.due(3, () -> d.approve(2, 1));
+        d.limit(2, 99);
+        d.leave(3, 2, 9);
+        t.due(3, () -> d.approve(0, 2));
+        t.fails(Checks.STATE, () -> d.approve(1, 2));
     }
 
     private static void byLimitOfOther(Checks t) {
@@ -582,6 +684,13 @@ final class TermSentences {
         most.leave(7, 2, 9);
         most.limit(7, 10000);
         t.due(7, () -> most.approve(0, 2));
+        for (int whom = 0; whom < 8; whom++) {
+            int w = whom, delegate = w % 7 + 1;
+            Approvalyard cheap = t.resolvedAt(2);
+            cheap.limit(delegate, 1);
+            cheap.leave(w, delegate, 9);
+            t.due(w, () -> cheap.approve(0, delegate));
+        }
     }
 
     private static void byHalfOfCost(Checks t) {
@@ -719,6 +828,13 @@ final class TermSentences {
         alone.pass(60);
         t.state(alone, 0, RELEASED, 150, 0, 0);
         t.choice(alone, 0, 1);
+        // One by the own limit ends on no day.
+        Approvalyard own = t.resolvedAt(100);
+        own.approve(0, 1);
+        for (int times = 0; times < 500; times++) {
+            own.pass(60);
+        }
+        t.state(own, 0, RESOLVED, 100, 1, 1);
     }
 
     private static void strain(Checks t) {
